@@ -101,6 +101,7 @@ public final class OddsInCourt {
     }
 
     public int weight(int way) {
+        net.refresh();
         return net.weightOf(way);
     }
 
@@ -110,6 +111,7 @@ public final class OddsInCourt {
         if (!net.has(node)) {
             return NONE;
         }
+        net.refresh();
         if (!net.putChance(node, first)) {
             return NO_WEIGHT;
         }
@@ -121,6 +123,7 @@ public final class OddsInCourt {
         if (!net.has(node)) {
             return NONE;
         }
+        net.refresh();
         int so = net.weighNowWith(node, 1);
         int not = net.weighNowWith(node, 0);
         if (not == 0) {
@@ -132,6 +135,7 @@ public final class OddsInCourt {
     }
 
     public int likely() {
+        net.refresh();
         int now = net.weighNow();
         if (now == 0) {
             return NO_WEIGHT;
@@ -146,6 +150,7 @@ public final class OddsInCourt {
         if (!net.has(claim) || !net.isSeen(seen) || claim == seen) {
             return NONE;
         }
+        net.refresh();
         if (net.weighNow() == 0) {
             return NO_WEIGHT;
         }
@@ -158,6 +163,7 @@ public final class OddsInCourt {
         if (!net.has(claim)) {
             return NONE;
         }
+        net.refresh();
         if (net.weighNow() == 0) {
             return NO_WEIGHT;
         }
@@ -184,6 +190,7 @@ public final class OddsInCourt {
         if (!net.has(claim) || !net.has(node) || net.isSeen(node) || node == claim) {
             return NONE;
         }
+        net.refresh();
         if (net.weighNow() == 0) {
             return NO_WEIGHT;
         }
@@ -205,6 +212,7 @@ public final class OddsInCourt {
         if (!net.has(claim) || !net.canLookBeside(claim)) {
             return NONE;
         }
+        net.refresh();
         if (net.weighNow() == 0) {
             return NO_WEIGHT;
         }
@@ -236,6 +244,7 @@ public final class OddsInCourt {
         if (!net.isPairBeside(a, b, given)) {
             return NONE;
         }
+        net.refresh();
         int spread = given;
         int cases = 1 << Integer.bitCount(given);
         for (int i = 0; i < cases; i++) {
@@ -252,6 +261,7 @@ public final class OddsInCourt {
         if (nodes == 0 || !net.hasAll(nodes)) {
             return NONE;
         }
+        net.refresh();
         int now = net.weighNow();
         if (now == 0) {
             return NO_WEIGHT;
@@ -276,6 +286,7 @@ public final class OddsInCourt {
         if (nodes == 0 || !net.hasAll(nodes)) {
             return NONE;
         }
+        net.refresh();
         int now = net.weighNow();
         if (now == 0) {
             return NO_WEIGHT;
@@ -339,6 +350,7 @@ public final class OddsInCourt {
         if (saying < 0 || saying >= said || side < 0 || side > 1 || sayings[saying].isBeside()) {
             return NONE;
         }
+        net.refresh();
         int answer = sets.findTerm(net, sayings[saying], side, Sets.AS_SAID, first);
         if (answer == 0) {
             numbers.tell(first);
@@ -377,6 +389,7 @@ public final class OddsInCourt {
     }
 
     private int judge(Saying saying, int kind) {
+        net.refresh();
         if (saying.isBeside()) {
             return sets.findBeside(net, saying);
         }
@@ -421,6 +434,7 @@ public final class OddsInCourt {
         if (!net.has(node)) {
             return NONE;
         }
+        net.refresh();
         if (net.weighNow() == 0) {
             return NO_WEIGHT;
         }
@@ -546,6 +560,7 @@ public final class OddsInCourt {
         if (claim == NONE || !net.canLookAt(node) || !net.canLookAt(claim)) {
             return NONE;
         }
+        net.refresh();
         int so = net.weighNowWith(claim, 1);
         int not = net.weighNowWith(claim, 0);
         long with = net.numberAt(node, 1);
@@ -858,7 +873,8 @@ public final class OddsInCourt {
         int nodes;
         int depths;
         final int[] leaning;
-        final int[] leanedOn;
+        private final int[] leanCount;
+        private final int[] leanedOn;
         final int[] depth;
         final int[] table;
         final int[] price;
@@ -875,6 +891,7 @@ public final class OddsInCourt {
             nodes = 0;
             depths = 1;
             leaning = new int[MOST];
+            leanCount = new int[MOST];
             leanedOn = new int[MOST * LEANS];
             depth = new int[MOST];
             table = new int[MOST * CASES];
@@ -893,7 +910,7 @@ public final class OddsInCourt {
         }
 
         boolean hasCase(int node, int at) {
-            return has(node) && at >= 0 && at < 1 << Integer.bitCount(leaning[node]);
+            return has(node) && at >= 0 && at < 1 << leanCount[node];
         }
 
         boolean isSeen(int node) {
@@ -910,13 +927,14 @@ public final class OddsInCourt {
             leaning[node] = leans;
             depth[node] = deep;
             price[node] = 1;
-            int at = node * LEANS;
-            for (int other = 0; other < node; other++) {
+            int count = 0;
+            for (int other = 0; other < node && count < LEANS; other++) {
                 if ((leans >> other & 1) != 0) {
-                    leanedOn[at] = other;
-                    at++;
+                    leanedOn[node * LEANS + count] = other;
+                    count++;
                 }
             }
+            leanCount[node] = count;
             depths *= deep;
             nodes++;
             fresh = false;
@@ -978,6 +996,7 @@ public final class OddsInCourt {
             fresh = false;
         }
 
+        /** Works the weights anew, if they no longer hold: whatever weighs is asked behind this. */
         void refresh() {
             if (fresh) {
                 return;
@@ -1004,24 +1023,18 @@ public final class OddsInCourt {
                 return (forcedSo >> node & 1) * depth[node];
             }
             int at = 0;
-            int leans = Integer.bitCount(leaning[node]);
-            for (int i = 0; i < leans; i++) {
+            for (int i = 0; i < leanCount[node]; i++) {
                 at |= (way >> leanedOn[node * LEANS + i] & 1) << i;
             }
             return table[node * CASES + at];
         }
 
         int weightOf(int way) {
-            if (!hasAll(way)) {
-                return NONE;
-            }
-            refresh();
-            return weights[way];
+            return hasAll(way) ? weights[way] : NONE;
         }
 
         /** Weight of all ways that have these bits in the mask. */
         int weigh(int mask, int bits) {
-            refresh();
             int rest = ((1 << nodes) - 1) & ~mask;
             int ways = 1 << Integer.bitCount(rest);
             int sum = 0;
@@ -1065,7 +1078,6 @@ public final class OddsInCourt {
         }
 
         int heaviestNow() {
-            refresh();
             int best = NONE;
             int ways = 1 << nodes;
             for (int way = 0; way < ways; way++) {
@@ -1108,7 +1120,7 @@ public final class OddsInCourt {
         }
 
         int onlyLean(int node) {
-            return Integer.bitCount(leaning[node]) == 1 ? leanedOn[node * LEANS] : NONE;
+            return leanCount[node] == 1 ? leanedOn[node * LEANS] : NONE;
         }
 
         boolean isPairBeside(int a, int b, int given) {
@@ -1118,7 +1130,6 @@ public final class OddsInCourt {
 
         /** Whether in one case of given nodes two nodes are as often together as by themselves. */
         boolean isEvenIn(int a, int b, int given, int spread) {
-            refresh();
             int rest = ((1 << nodes) - 1) & ~given;
             int ways = 1 << Integer.bitCount(rest);
             long all = 0;
@@ -1542,7 +1553,6 @@ public final class OddsInCourt {
         }
 
         private int weighBoth(Net net, int one, int other) {
-            net.refresh();
             int sum = 0;
             int ways = 1 << net.nodes;
             for (int way = 0; way < ways; way++) {
@@ -1688,6 +1698,7 @@ public final class OddsInCourt {
                 for (int i = 0; i < told; i++) {
                     moveTo(net, i, (ends >> i & 1) != 0);
                 }
+                net.refresh();
                 if (!net.putChance(node, tried)) {
                     continue;
                 }
@@ -1705,8 +1716,10 @@ public final class OddsInCourt {
         boolean parts(Net net, int node, int i, Fraction atLow, Fraction atHigh) {
             hold(net);
             moveTo(net, i, false);
+            net.refresh();
             boolean lowThere = net.putChance(node, atLow);
             moveTo(net, i, true);
+            net.refresh();
             boolean highThere = net.putChance(node, atHigh);
             giveBack(net);
             return lowThere && highThere && atLow.compare(atHigh) != 0;
