@@ -1578,8 +1578,7 @@ public final class OddsInCourt {
             while (saying.signAt(at) == '&' && at < Saying.MOST) {
                 at++;
                 readThing(saying, deep);
-                narrow(top - 2, top - 1);
-                top--;
+                meet();
             }
         }
 
@@ -1634,8 +1633,16 @@ public final class OddsInCourt {
             top--;
         }
 
+        private void meet() {
+            if (top < 2) {
+                return;
+            }
+            narrow(top - 2, top - 1);
+            top--;
+        }
+
         private void narrow(int one, int by) {
-            for (int i = 0; i < words && one >= 0 && by >= 0; i++) {
+            for (int i = 0; i < words; i++) {
                 pile[one][i] &= pile[by][i];
             }
         }
