@@ -1161,23 +1161,12 @@ public final class OddsInCourt {
             return leaners;
         }
 
-        /** Given nodes and all that they lean on, also by some. */
-        private int opened(int given) {
-            int open = given;
-            for (int node = nodes - 1; node >= 0; node--) {
-                if ((open >> node & 1) != 0) {
-                    open |= leansOf(node);
-                }
-            }
-            return open;
-        }
-
         /**
          * Whether a row of free nodes goes from a to b. A node may be come to from one that leans
          * on it (fromBelow) or from one that it leans on (fromAbove): that alone decides how to go on.
+         * Where two meet and one far below is given, the way goes down to that one and back.
          */
         boolean connects(int a, int b, int given) {
-            int open = opened(given);
             int fromBelow = leansOf(a);
             int fromAbove = leanersOn(a);
             for (int round = 0; round < 2 * MOST; round++) {
@@ -1187,7 +1176,7 @@ public final class OddsInCourt {
                     boolean passes = (given >> node & 1) == 0;
                     boolean lower = (below >> node & 1) != 0;
                     boolean upper = (above >> node & 1) != 0;
-                    if (passes && lower || upper && (open >> node & 1) != 0) {
+                    if (passes && lower || !passes && upper) {
                         fromBelow |= leansOf(node);
                     }
                     if (passes && (lower || upper)) {

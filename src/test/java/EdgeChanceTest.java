@@ -86,8 +86,22 @@ final class EdgeChanceTest {
         Same.tells("P10 moves: below, the upper number too", 2, Same::rich, x -> x.moves(0, 1), -45, 176);
         Same.tells("P10 moves: 0 by 1", 0, Same::rich, x -> x.moves(3, 2), 0, 1);
         Same.tells("P10 moves: a CLAIM that is SEEN", 0, EdgeChanceTest::claimSeen, x -> x.moves(0, 2), 0, 1);
+        Same.tells("P10 moves: above 0, the upper number 1", 1, () -> quarter(1), x -> x.moves(0, 1), 1, 4);
+        Same.tells("P10 moves: below 0, the upper number -1", 2, () -> quarter(0), x -> x.moves(0, 1), -1, 4);
         Same.unchanged("P10 moves: NOW has no WEIGHT", -2, Same::weightless, x -> x.moves(0, 1));
         Same.unchanged("P10 moves: though without it NOW had", -2, Same::weightless, x -> x.moves(0, 3));
+    }
+
+    /** a 1 in 2; b, SEEN as told, 3 in 4 with it, 1 in 4 without. */
+    private static OddsInCourt quarter(int state) {
+        OddsInCourt x = new OddsInCourt();
+        x.node(0, 2);
+        x.node(1, 4);
+        x.set(0, 0, 1);
+        x.set(1, 1, 3);
+        x.set(1, 0, 1);
+        x.see(1, state);
+        return x;
     }
 
     private static void movesRefused() {
@@ -153,6 +167,24 @@ final class EdgeChanceTest {
         Same.tells("P11 most: the one thing, though it moves nothing", 1, EdgeChanceTest::oneThing,
             x -> x.most(0), 0, 1);
         Same.tells("P11 most: the CLAIM is SEEN too", 2, EdgeChanceTest::claimSeen, x -> x.most(0), 0, 1);
+        Same.tells("P11 most: not one that is SEEN no more", 2, () -> {
+            OddsInCourt x = twins();
+            x.set(1, 1, 3);
+            x.see(1, -1);
+            return x;
+        }, x -> x.most(0), 1, 6);
+        OddsInCourt ten = new OddsInCourt();
+        for (int i = 0; i < 10; i++) {
+            ten.node(i == 9 ? 1 : 0, 4);
+            ten.set(i, 0, 1);
+            ten.see(i, 1);
+        }
+        ten.set(9, 1, 3);
+        Due.is("P11 most: ten SEEN, one of them the CLAIM", 1, ten.most(0));
+        Due.row("P11 most: ten SEEN, one of them the CLAIM", ten, 0, 1);
+        ten.see(0, -1);
+        Due.is("P11 most: the last of nine", 9, ten.most(0));
+        Due.row("P11 most: 1/2 less 1/4", ten, 1, 4);
         Same.unchanged("P11 most: NOW has no WEIGHT", -2, Same::weightless, x -> x.most(0));
     }
 

@@ -118,7 +118,17 @@ final class EdgeHeadTest {
             return x;
         }, x -> x.hear(0, 0), 1, 63);
         Same.tells("T3: P 0: 0 by 1", 0, () -> seen(0, 1, 1, 0, 300), x -> x.hear(0, 0), 0, 1);
-        // c SEEN, then b not; c: 14/20 with a, 6/20 without; not b: 1/4 with, 3/4 without
+        // c SEEN, then b not; c: 14/20 with a, 6/20 without; not b behind it: 2/14 with, 3/6 without
+        Same.tells("T3: HABIT 1 and no other", 0, () -> withHead(Same.rich(), 1, 1), x -> x.hear(1, 0), 2, 3);
+        Same.tells("T3: HABIT 1 and no other, small", 0, () -> small(1, 1, 9999), x -> x.hear(0, 0), 5000000, 9999);
+        Same.tells("T3: HABIT 8 and no other", 0, () -> withHead(Same.rich(), 8, 1), x -> x.hear(1, 0), 2, 9);
+        Same.tells("T3: HABIT 16 and no other", 0, () -> withHead(Same.rich(), 16, 2), x -> x.hear(1, 0), 2, 9);
+        Same.tells("T3: HABIT 4 and no other", 0, () -> withHead(Same.rich(), 4, 1), x -> x.hear(1, 0), 1, 1);
+        Same.tells("T3: HABITS 2 and 4", 0, () -> withHead(Same.rich(), 6, 1), x -> x.hear(1, 0), 1, 3);
+        Same.tells("T3: HABITS 1 and 2", 0, () -> withHead(Same.rich(), 3, 1), x -> x.hear(1, 0), 7, 9);
+        Same.tells("T3: HABITS 4 and 16", 0, () -> withHead(Same.rich(), 20, 1), x -> x.hear(1, 0), 7, 3);
+        Same.tells("T3: all HABITS", 0, () -> withHead(Same.rich(), 31, 1), x -> x.hear(1, 0), 7, 3);
+        // not b as if alone: 1/4 with a, 3/4 without
         Same.tells("T3: HABIT 2: GIVEN the CLAIM alone", 0, () -> {
             OddsInCourt x = Same.rich();
             x.head(2, 1);
@@ -141,13 +151,13 @@ final class EdgeHeadTest {
         Same.tells("T3: HABIT 4: P has nothing GIVEN", 0, () -> seen(4, 1, 0, 5, 250), x -> x.hear(0, 0), 0, 1);
     }
 
-    /** b is so in v of 1000000 without a, in half of all cases with it. */
+    /** b is so in v of 10000000 without a, in half of all cases with it. */
     private static OddsInCourt small(int habits, int m, int v) {
         OddsInCourt x = new OddsInCourt();
         x.node(0, 2);
-        x.node(1, 1000000);
+        x.node(1, 10000000);
         x.set(0, 0, 1);
-        x.set(1, 1, 500000);
+        x.set(1, 1, 5000000);
         x.set(1, 0, v);
         x.see(1, 1);
         x.head(habits, m);
@@ -156,18 +166,18 @@ final class EdgeHeadTest {
     }
 
     private static void smallIsNever() {
-        Same.tells("T3: HABIT 8, m 1: just 1 in 1000", 0, () -> small(8, 1, 1000), x -> x.hear(0, 0), 500, 1);
-        Same.unchanged("T3: HABIT 8, m 1: below", 1, () -> small(8, 1, 999), x -> x.hear(0, 0));
-        Same.tells("T3: HABIT 8, m 4: just 1 in 4000", 0, () -> small(8, 4, 250), x -> x.hear(0, 0), 2000, 1);
-        Same.unchanged("T3: HABIT 8, m 4: below", 1, () -> small(8, 4, 249), x -> x.hear(0, 0));
-        // 1 in 99000 is 10.1 in 1000000
-        Same.tells("T3: HABIT 8, m 99: not below", 0, () -> small(8, 99, 11), x -> x.hear(0, 0), 500000, 11);
-        Same.unchanged("T3: HABIT 8, m 99: below", 1, () -> small(8, 99, 10), x -> x.hear(0, 0));
-        Same.tells("T3: without HABIT 8", 0, () -> small(0, 1, 999), x -> x.hear(0, 0), 500000, 999);
-        Same.unchanged("T3: HABITS 4 and 8: SURE", 1, () -> small(12, 1, 999), x -> x.hear(0, 0));
-        Same.tells("T3: HABITS 4 and 8: not below", 0, () -> small(12, 1, 1000), x -> x.hear(0, 0), 999, 1);
+        Same.tells("T3: HABIT 8, m 1: just 1 in 1000", 0, () -> small(8, 1, 10000), x -> x.hear(0, 0), 500, 1);
+        Same.unchanged("T3: HABIT 8, m 1: below", 1, () -> small(8, 1, 9999), x -> x.hear(0, 0));
+        Same.tells("T3: HABIT 8, m 4: just 1 in 4000", 0, () -> small(8, 4, 2500), x -> x.hear(0, 0), 2000, 1);
+        Same.unchanged("T3: HABIT 8, m 4: below", 1, () -> small(8, 4, 2499), x -> x.hear(0, 0));
+        // 1 in 99000 is 101.01 in 10000000
+        Same.tells("T3: HABIT 8, m 99: not below", 0, () -> small(8, 99, 102), x -> x.hear(0, 0), 2500000, 51);
+        Same.unchanged("T3: HABIT 8, m 99: below", 1, () -> small(8, 99, 101), x -> x.hear(0, 0));
+        Same.tells("T3: without HABIT 8", 0, () -> small(0, 1, 9999), x -> x.hear(0, 0), 5000000, 9999);
+        Same.unchanged("T3: HABITS 4 and 8: SURE", 1, () -> small(12, 1, 9999), x -> x.hear(0, 0));
+        Same.tells("T3: HABITS 4 and 8: not below", 0, () -> small(12, 1, 10000), x -> x.hear(0, 0), 999, 1);
         Same.tells("T3: HABIT 8: ODDS times P is 0: not heard", 0, () -> {
-            OddsInCourt x = small(8, 1, 999);
+            OddsInCourt x = small(8, 1, 9999);
             x.set(1, 1, 0);
             return x;
         }, x -> x.hear(0, 0), 1, 1);
@@ -326,7 +336,7 @@ final class EdgeHeadTest {
         Same.unchanged("P31 errs: 1, greater", 1, () -> withHead(Same.rich(), 1, 1), x -> x.errs(1, 0));
         Same.unchanged("P31 errs: 1, hardly greater", 1, () -> withHead(Same.rich(), 2, 1), x -> x.errs(1, 0));
         Same.unchanged("P31 errs: 2, less", 2, () -> seen(1, 1, 9, 500, 250), x -> x.errs(0, 0));
-        Same.unchanged("P31 errs: 1, SURE, these not", 1, () -> small(8, 1, 999), x -> x.errs(0, 0));
+        Same.unchanged("P31 errs: 1, SURE, these not", 1, () -> small(8, 1, 9999), x -> x.errs(0, 0));
         Same.unchanged("P31 errs: 0, both SURE", 0, () -> seen(0, 1, 1, 1, 0), x -> x.errs(0, 0));
         Same.unchanged("P31 errs: 0, both SURE at first", 0, () -> seen(0, 1, 10, 1, 0), x -> x.errs(0, 0));
         Same.unchanged("P31 errs: 2, these SURE", 2, () -> seen(1, 1, 10, 1, 0), x -> x.errs(0, 0));
@@ -368,6 +378,11 @@ final class EdgeHeadTest {
         Same.tells("P32 order: nothing SEEN: an empty one", 0, () -> net(0, 1, 1, 0, 0), x -> x.order(0, 0));
         Same.tells("P32 order: one thing", 0, () -> seen(0, 1, 1, 5, 7), x -> x.order(0, 0), 1);
         Same.tells("P32 order: not the CLAIM", 0, Same::rich, x -> x.order(0, 1), 2);
+        Same.tells("P32 order: a is one of the things", 0, () -> {
+            OddsInCourt x = Same.rich();
+            x.see(0, 1);
+            return x;
+        }, x -> x.order(0, 1), 0, 2);
         Same.tells("P32 order: SURE at first: the first by numbers", 0, () -> {
             OddsInCourt x = seen(0, 1, 10, 5, 7);
             x.see(0, 1);

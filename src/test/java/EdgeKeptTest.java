@@ -77,6 +77,7 @@ final class EdgeKeptTest {
         }
         OddsInCourt x = Same.rich();
         change(x);
+        x.weight(0);
         Due.is("P43 again: as kept under 1", true, x.again(1));
         Due.is("P43 again: what is SEEN then", 1, x.count(1));
         Due.is("P43 again: c is", 1, x.of(2, 2));

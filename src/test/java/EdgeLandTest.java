@@ -202,6 +202,10 @@ final class EdgeLandTest {
         x.land(999998, 2, 1, 333332, 0);
         Due.is("P38 rare: hardly rarer", 2, x.rare(0, 0));
         Due.is("P38 rare: hardly more frequent", 1, x.rare(0, 1));
+        // MARK 0: 3 of 10, then 1 of 20, 30, .. 70; MARK 5: of the last alone
+        Same.unchanged("P38 rare: of 8, the last", 7, EdgeLandTest::eightLands, y -> y.rare(0, 0));
+        Same.unchanged("P38 rare: of 8, the first", 0, EdgeLandTest::eightLands, y -> y.rare(0, 1));
+        Same.unchanged("P38 rare: of 8, one counted it", 7, EdgeLandTest::eightLands, y -> y.rare(5, 1));
     }
 
     private static void rareRefused() {
@@ -304,9 +308,20 @@ final class EdgeLandTest {
             x -> x.enough(1));
         Same.unchanged("P41 enough: nothing to count more", -2, () -> days("odl", ""), x -> x.enough(1));
         Same.unchanged("P41 enough: nothing to count more, nor needed", 0, () -> days("odl", ""), x -> x.enough(2));
+        // LOOKED at: two ON, one not, on 3 DAYS ON of 8: 16 of 56; with one more 35 of 70, with two 40 of 56
+        Same.unchanged("P41 enough: some LOOKED at not ON, none more", 0, EdgeLandTest::both, x -> x.enough(4));
+        Same.unchanged("P41 enough: some LOOKED at not ON, one more", 1, EdgeLandTest::both, x -> x.enough(3));
+        Same.unchanged("P41 enough: some LOOKED at not ON, just 1 in 2", 1, EdgeLandTest::both, x -> x.enough(2));
+        Same.unchanged("P41 enough: some LOOKED at not ON, not enough", -2, EdgeLandTest::both, x -> x.enough(1));
+        Same.unchanged("P41 enough: all of DAYS not ON are LOOKED at", -2, () -> days("odl", "od", "dl", ""),
+            x -> x.enough(1));
         // 15 on 15 ON: 1 of 155117520; 16: 1 in 9694845; 17: 1 in 1140570; 18: 455 of 86493225
         Same.unchanged("P41 enough: of 30 DAYS, just too few", -2, () -> half(2), x -> x.enough(1000000));
         Same.unchanged("P41 enough: of 30 DAYS", 3, () -> half(3), x -> x.enough(1000000));
+    }
+
+    private static OddsInCourt both() {
+        return days("odl", "dl", "odl", "d", "o", "d", "", "");
     }
 
     /** Thirty DAYS: 15 deaths LOOKED at on 15 DAYS ON, and some more deaths on the others. */

@@ -56,7 +56,8 @@ final class EdgeListTest {
 
     /** Each step is cut: worked here with whole numbers of any size. */
     private static void manyCut() {
-        int[][] rates = {{1, 3}, {1, 7}, {3, 1000}, {1, 9999}, {7, 999983}, {1, 100000}, {1, 144285}};
+        int[][] rates = {{1, 3}, {1, 7}, {3, 1000}, {1, 9999}, {7, 999983}, {1, 100000}, {1, 144285},
+            {8, 998889}, {7, 996470}};
         for (int[] rate : rates) {
             BigInteger parts = BigInteger.valueOf(1000000000);
             int looked = 0;

@@ -79,6 +79,7 @@ final class EdgeNetTest {
         Same.refused("P2 node: DEPTH far above", OddsInCourt::new, x -> x.node(0, Integer.MAX_VALUE));
         Same.refused("P2 node: DEPTHS too great", () -> deep(10000000), x -> x.node(0, 11));
         Same.refused("P2 node: DEPTHS just too great", () -> deep(10000), x -> x.node(0, 10001));
+        Same.refused("P2 node: DEPTHS of 10 to the 8 and 1", () -> deep(5882353), x -> x.node(0, 17));
         Same.refused("P2 node: DEPTHS full", () -> deep(10000000, 10), x -> x.node(0, 2));
         // 10 to the 8 times 43 comes round to 5032704 in 32 bits
         Same.refused("P2 node: DEPTHS that wrap around", () -> deep(10000000, 10), x -> x.node(0, 43));
@@ -249,6 +250,12 @@ final class EdgeNetTest {
         }
         Due.is("P5 see: again, all ten there", true, x.see(0, 0));
         Due.is("P5 see: still ten", 10, x.count(1));
+        Due.is("P5 see: -1 the first of ten", true, x.see(9, -1));
+        Due.is("P5 see: nine, the last at 8", 8, x.of(0, 3));
+        Due.is("P5 see: the tenth again", true, x.see(9, 1));
+        Due.is("P5 see: the last of ten", 9, x.of(9, 3));
+        Due.is("P5 see: -1 the last of ten", true, x.see(9, -1));
+        Due.is("P5 see: nine", 9, x.count(1));
         Due.is("P5 see: a FORCED one", true, Same.rich().see(3, 1));
     }
 
@@ -297,6 +304,14 @@ final class EdgeNetTest {
         Same.refused("P6 weight: a WAY of no NODES", OddsInCourt::new, x -> x.weight(1));
         Due.is("P6 weight: the last WAY of ten", 0, ten().weight(1023));
         Due.is("P6 weight: none beyond", -1, ten().weight(1024));
+        OddsInCourt y = deep(3);
+        Due.is("P6 weight: of one NODE", 3, y.weight(0));
+        y.node(0, 5);
+        Due.is("P6 weight: with a NODE told since", 15, y.weight(0));
+        y.set(1, 0, 2);
+        Due.is("P6 weight: with a TABLE told since", 9, y.weight(0));
+        y.force(0, 1);
+        Due.is("P6 weight: with one FORCED since", 0, y.weight(0));
         OddsInCourt x = deep(10000000, 10);
         Due.is("P6 weight: the greatest", 100000000, x.weight(0));
         x.set(0, 0, 10000000);

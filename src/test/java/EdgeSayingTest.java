@@ -17,7 +17,11 @@ final class EdgeSayingTest {
         brackets();
         forty();
         twelve();
+        behindWrong();
         so();
+        deepEvents();
+        tenLetters();
+        beside();
         soOpen();
         term();
         termRefused();
@@ -297,6 +301,23 @@ final class EdgeSayingTest {
         Due.is("P21 say: none behind", -1, x.so(12));
     }
 
+    /** What could not be said leaves nothing behind for the next one. */
+    private static void behindWrong() {
+        for (String wrong : new String[] {"a|b|c", "a|b/c|d", "a~b|c=d", "a&b&c/d&a", "a/b&c=", "1:2=3", "a|b=c|d)"}) {
+            for (String right : new String[] {"a&b=3:32", "a=1:4", "b/a=1:2", "a~b", "1:2=2:4", "1:4=a"}) {
+                OddsInCourt x = with(wrong);
+                OddsInCourt y = with("");
+                Due.is("P21 say: " + wrong, true, x.say() < 0);
+                Due.is("P21 say: behind " + wrong, 2, Due.say(x, right));
+                Due.is("P21 say", 2, Due.say(y, right));
+                for (int kind = 1; kind <= 4; kind++) {
+                    Due.is("P24 slip of " + right + " behind " + wrong, y.slip(2, kind), x.slip(2, kind));
+                }
+                Due.is("P25 which of " + right + " behind " + wrong, y.which(2), x.which(2));
+            }
+        }
+    }
+
     // ---- P22, P23
 
     /** The rich one with these sayings as 2, 3, ... */
@@ -330,6 +351,62 @@ final class EdgeSayingTest {
         Same.refused("P22 so: below 0", Same::rich, x -> x.so(-1));
         Same.refused("P22 so: far off", Same::rich, x -> x.so(Integer.MAX_VALUE));
         Same.refused("P22 so: none", OddsInCourt::new, x -> x.so(0));
+    }
+
+    /** Five ( ) in one another, with one thing kept back by | and one by & in each. */
+    private static void deepEvents() {
+        isSo("T2: 5 in one another", "(((((a)))))=1:4", 1);
+        isSo("T2: 5 in one another, ! ahead of each", "!(!(!(!(!(!a)))))=1:4", 1);
+        isSo("T2: 5 in one another, ! five times", "!(!(!(!(!(a)))))=3:4", 1);
+        // a|b&c at each depth: 29 in 80
+        isSo("T2: | binds least, at each depth", "a|b&(a|b&(a|b&(a|b&(a|b&(a|b&c)))))<3:8", 1);
+        isSo("T2: | binds least, at each depth", "a|b&(a|b&(a|b&(a|b&(a|b&(a|b&c)))))>1:3", 1);
+        isSo("T2: | binds least, with ~", "d~a|b&(a|b&(a|b&(a|b&(a|b&(a|b&c)))))", 1);
+        isSo("T2: 5 in one another behind /", "a/(((((b&c)))))=4:7", 1);
+        isSo("T2: & binds more than |", "b&c|a=29:80", 1);
+        isSo("T2: ! binds more than &", "!a&b=3:16", 1);
+        isSo("T2: ! ahead of ( )", "!(a&b)=13:16", 1);
+    }
+
+    private static void tenLetters() {
+        OddsInCourt x = new OddsInCourt();
+        for (int i = 0; i < 10; i++) {
+            x.node(0, 6);
+            x.set(i, 0, 1 + i % 5);
+        }
+        for (int i = 0; i < 10; i++) {
+            String letter = "" + (char) ('a' + i);
+            Due.is("T2: the letter " + letter, i, Due.say(x, letter + "=" + (1 + i % 5) + ":6"));
+            Due.is("P22 so: the letter " + letter, 1, x.so(i));
+        }
+        Due.is("T2: all ten letters", 10, Due.say(x, "a&b&c&d&e&f&g&h&i&j=14400:60466176"));
+        Due.is("P22 so: all ten letters", 1, x.so(10));
+        Due.is("T2: letters apart", 11, Due.say(x, "a&g|!j/f|!h=19:102"));
+        Due.is("P23 term: letters apart", 0, x.term(11, 0));
+        // a&g 1 in 18, j 5 in 6, f and h by themselves: 1 less 17/18 times 5/6
+        Due.row("P23 term: letters apart", x, 23, 108);
+        for (int node = 0; node < 10; node++) {
+            x.force(node, node & 1);
+        }
+        Due.is("P23 term: all FORCED", 0, x.term(10, 0));
+        Due.row("P23 term: all FORCED", x, 0, 1);
+    }
+
+    /** d is 1 in 2 here, and by itself. */
+    private static OddsInCourt free(String text) {
+        OddsInCourt x = saying(text);
+        x.force(3, -1);
+        return x;
+    }
+
+    private static void beside() {
+        String[] texts = {"a~d", "d~a", "a&b~d", "a~d/b", "a~d/c&b", "a~b/c", "a~b", "a~a", "a~!a", "a|b~d|!d",
+            "d~a|d", "a&d~b&!d", "a~a/d", "a~d/a|d"};
+        int[] due = {1, 1, 1, 1, 1, 0, 0, 0, 0, 1, 0, 0, 0, 0};
+        for (int i = 0; i < texts.length; i++) {
+            String text = texts[i];
+            Same.unchanged("P22 so: with ~, " + text, due[i], () -> free(text), x -> x.so(2));
+        }
     }
 
     private static void soOpen() {

@@ -50,6 +50,12 @@ final class EdgeSpanTest {
             x.span(0, 0, 1, 3);
             return x;
         });
+        OddsInCourt z = sixSpans();
+        int[][] told = {{1, 0}, {0, 0}, {2, 0}, {2, 1}, {2, 2}, {2, 3}};
+        int[] gone = {1, 3, 5, 0, 4, 2};
+        for (int i = 0; i < 6; i++) {
+            Due.is("P26 span: no more, one by one", 5 - i, z.span(told[gone[i]][0], told[gone[i]][1], 1, 0));
+        }
         OddsInCourt x = Same.rich();
         x.see(2, -1);
         x.see(1, -1);
@@ -128,6 +134,14 @@ final class EdgeSpanTest {
         return x;
     }
 
+    /** b is SEEN so; its number without a has a SPAN. */
+    private static OddsInCourt seenSo(int low, int high) {
+        OddsInCourt x = net();
+        x.see(1, 1);
+        x.span(1, 0, low, high);
+        return x;
+    }
+
     private static void reach() {
         Same.tells("P27 reach: no SPANS, least", 0, EdgeSpanTest::net, x -> x.reach(1, 0), 1, 2);
         Same.tells("P27 reach: no SPANS, greatest", 0, EdgeSpanTest::net, x -> x.reach(1, 1), 1, 2);
@@ -137,6 +151,10 @@ final class EdgeSpanTest {
         Same.tells("P27 reach: 1 by 1", 0, () -> spanned(0, 10), x -> x.reach(0, 1), 1, 1);
         Same.tells("P27 reach: one number, not the TABLE's", 0, () -> spanned(3, 3), x -> x.reach(0, 0), 3, 10);
         Same.tells("P27 reach: one number, greatest", 0, () -> spanned(3, 3), x -> x.reach(0, 1), 3, 10);
+        Same.tells("P27 reach: the least at a high end", 0, () -> seenSo(0, 10), x -> x.reach(0, 0), 4, 9);
+        Same.tells("P27 reach: the greatest at a low end", 0, () -> seenSo(0, 10), x -> x.reach(0, 1), 1, 1);
+        Same.tells("P27 reach: the TABLE within, least", 0, () -> seenSo(1, 6), x -> x.reach(0, 0), 4, 7);
+        Same.tells("P27 reach: the TABLE within, greatest", 0, () -> seenSo(1, 6), x -> x.reach(0, 1), 8, 9);
         OddsInCourt x = sixSpans();
         x.see(2, -1);
         x.see(1, -1);

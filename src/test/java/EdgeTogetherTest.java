@@ -129,8 +129,11 @@ final class EdgeTogetherTest {
         Due.is("P16 even: FORCED ones do matter", 1, y.even(1, 2, 1));
         OddsInCourt z = net(0, 0, 0, 0, 0, 0, 0, 0, 0, 7);
         Due.is("P16 even: eight GIVEN of ten", 1, z.even(0, 9, 510));
-        z.set(9, 7, 2);
-        Due.is("P16 even: one case of them", 0, z.even(0, 9, 510));
+        for (int at = 0; at < 8; at++) {
+            z.set(9, at, 2);
+            Due.is("P16 even: one case of them, " + at, 0, z.even(0, 9, 510));
+            z.set(9, at, 1);
+        }
     }
 
     private static void joined() {

@@ -242,6 +242,9 @@ final class Same {
         x.day(false, true, false);
         x.day(false, false, false);
         x.joined(5);
+        // told anew, so that whatever weighs next has to work it out
+        x.set(3, 0, 2);
+        x.set(3, 0, 1);
         Due.write(x, "a=1:2");
         return x;
     }
