@@ -17,6 +17,7 @@ final class EdgeKeptTest {
         ofThrows();
         row();
         rowThrows();
+        rowStays();
         Due.end("EdgeKeptTest");
     }
 
@@ -228,7 +229,7 @@ final class EdgeKeptTest {
 
     private static void row() {
         Same.unchanged("P46 row: the first", 2, Same::rich, x -> x.row(0));
-        Same.unchanged("P46 row: the last of four", 11, Same::rich, x -> x.row(3));
+        Same.unchanged("P46 row: the last of four", 5, Same::rich, x -> x.row(3));
         OddsInCourt x = Same.rich();
         x.shifts(0);
         Due.is("P46 row: three numbers", 3, x.count(7));
@@ -243,6 +244,43 @@ final class EdgeKeptTest {
         Due.row("P46 row: none, an empty order", x);
         x.joined(1);
         Due.is("P46 row: four again", 4, x.count(7));
+    }
+
+    private static void stays(String call, long due, Same.Asking asking) {
+        OddsInCourt x = Same.rich();
+        Due.is("T3: " + call + " is taken", due, asking.ask(x));
+        Due.row("T3: ROW, numbers told last by a call that says so: not by " + call, x, 2, 5, 2, 5);
+    }
+
+    private static void rowStays() {
+        stays("node", 4, x -> x.node(0, 2));
+        stays("set", 1, x -> x.set(0, 0, 3));
+        stays("force", 1, x -> x.force(0, 1) ? 1 : 0);
+        stays("see", 1, x -> x.see(0, 1) ? 1 : 0);
+        stays("weight", 0, x -> x.weight(0));
+        stays("cost", 1, x -> x.cost(0, 9));
+        stays("apart", 0, x -> x.apart(0, 1, 0));
+        stays("even", 0, x -> x.even(0, 1, 0));
+        stays("sign", 9, x -> x.sign(0));
+        stays("end", 1, x -> x.end(0) ? 1 : 0);
+        stays("say", 2, x -> x.say());
+        stays("so", 1, x -> x.so(0));
+        stays("slip", 0, x -> x.slip(0, 1));
+        stays("which", 0, x -> x.which(0));
+        stays("span", 3, x -> x.span(1, 1, 0, 1));
+        stays("leans", 2 | 1, x -> x.leans(0));
+        stays("head", 1, x -> x.head(0, 1));
+        stays("errs", 0, x -> x.errs(0, 0));
+        stays("many", 1, x -> x.many(1, 2));
+        stays("land", 2, x -> x.land(10, 0, 1, 1, 1));
+        stays("rare", 0, x -> x.rare(0, 0));
+        stays("day", 4, x -> x.day(true, true, true));
+        stays("enough", 0, x -> x.enough(3));
+        stays("keep", 1, x -> x.keep(0) ? 1 : 0);
+        stays("again", 1, x -> x.again(1) ? 1 : 0);
+        stays("count", 4, x -> x.count(0));
+        stays("of", 4, x -> x.of(0, 1));
+        stays("row", 2, x -> x.row(0));
     }
 
     private static void rowThrows() {

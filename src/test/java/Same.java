@@ -241,10 +241,10 @@ final class Same {
         x.day(true, true, true);
         x.day(false, true, false);
         x.day(false, false, false);
+        // changed behind the last call that weighs, so that the next one has to work it out
+        x.set(0, 0, 2);
         x.joined(5);
-        // told anew, so that whatever weighs next has to work it out
-        x.set(3, 0, 2);
-        x.set(3, 0, 1);
+        x.set(0, 0, 1);
         Due.write(x, "a=1:2");
         return x;
     }
