@@ -401,8 +401,9 @@ final class EdgeSayingTest {
 
     private static void beside() {
         String[] texts = {"a~d", "d~a", "a&b~d", "a~d/b", "a~d/c&b", "a~b/c", "a~b", "a~a", "a~!a", "a|b~d|!d",
-            "d~a|d", "a&d~b&!d", "a~a/d", "a~d/a|d"};
-        int[] due = {1, 1, 1, 1, 1, 0, 0, 0, 0, 1, 0, 0, 0, 0};
+            "d~a|d", "a&d~b&!d", "a~a/d", "a~d/a|d", "(((((a)))))~(((((d)))))", "(((((a)))))~(((((b)))))",
+            "a~(((((!a)))))", "a~d/(((((b)))))", "a~d/(((((a|d)))))"};
+        int[] due = {1, 1, 1, 1, 1, 0, 0, 0, 0, 1, 0, 0, 0, 0, 1, 0, 0, 1, 0};
         for (int i = 0; i < texts.length; i++) {
             String text = texts[i];
             Same.unchanged("P22 so: with ~, " + text, due[i], () -> free(text), x -> x.so(2));
@@ -460,6 +461,8 @@ final class EdgeSayingTest {
         slips("T2: an & within ( ) stays", "(a&b)=3:16", 1, 1, 1, 0);
         slips("T2: with a | outside it stays", "a&b|a&b=3:16", 1, 1, 1, 0);
         slips("T2: a | within ( ) is a thing", "a&(a|b)=7:64", 0, 0, 1, 0);
+        slips("T2: a thing of 5 ( ) in one another", "(((((a)))))&(((((b)))))=3:32", 0, 0, 1, 0);
+        slips("T2: three things", "a&!b&a=5:128", 0, 0, 1, 0);
         slips("T2: each GIVEN what is behind /", "a&b/b=1:2", 0, 0, 1, 1);
         slips("T2: an & behind / stays", "a/a&b=1:1", 0, 0, 1, 0);
         Same.unchanged("P24 slip: NOW does not matter", 1, () -> {
