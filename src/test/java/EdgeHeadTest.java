@@ -15,6 +15,7 @@ final class EdgeHeadTest {
         smallIsNever();
         tires();
         notHeard();
+        tenNodes();
         byNought();
         greatest();
         tooGreat();
@@ -243,6 +244,26 @@ final class EdgeHeadTest {
         Same.tells("P30 hear: NOW has no WEIGHT", 0, Same::weightless, x -> x.hear(0, 0), 2, 9);
     }
 
+    /** Ten nodes, nine of them SEEN: each makes ODDS twice as great. */
+    private static void tenNodes() {
+        OddsInCourt x = new OddsInCourt();
+        x.node(0, 2);
+        x.set(0, 0, 1);
+        for (int i = 1; i < 10; i++) {
+            x.node(1, 3);
+            x.set(i, 1, 2);
+            x.set(i, 0, 1);
+            x.see(i, 1);
+        }
+        x.head(0, 1);
+        Due.is("P30 hear: nine things", 0, x.hear(0, 0));
+        Due.row("P30 hear: nine things", x, 512, 1);
+        x.see(0, 0);
+        Due.is("P30 hear: nine things and the CLAIM", 0, x.hear(0, 0));
+        Due.row("P30 hear: nine things and the CLAIM", x, 512, 1);
+        Due.is("P31 errs: nine things and the CLAIM", 0, x.errs(0, 0));
+    }
+
     private static void byNought() {
         Same.unchanged("T3: a quotient by 0: SURE", 1, () -> seen(0, 1, 1, 1, 0), x -> x.hear(0, 0));
         Same.tells("T3: 0 by 0: not heard", 0, () -> seen(0, 1, 1, 0, 0), x -> x.hear(0, 0), 1, 9);
@@ -449,6 +470,17 @@ final class EdgeHeadTest {
         y.head(16, 1);
         Due.is("P32 order: the greatest first", 0, y.order(1, 0));
         Due.row("P32 order: the greatest first", y, 7, 3, 4, 5, 6);
+        // many were heard of before: none of them is left behind
+        OddsInCourt z = sevenThings(1, 2, 3, 4, 5, 6, 7);
+        z.head(16, 1);
+        z.set(2, 1, 3);
+        Due.is("P30 hear: seven things, tired after four", 0, z.hear(0, 0));
+        Due.row("P30 hear: seven things, tired after four", z, 24, 1);
+        for (int i = 3; i < 8; i++) {
+            z.see(i, -1);
+        }
+        Due.is("P32 order: fewer than were heard of before", 0, z.order(1, 0));
+        Due.row("P32 order: fewer than were heard of before", z, 2, 1);
         Same.refused("P32 order: more than 5 things", () -> sevenThings(7, 6, 5, 4, 3, 2), x -> x.order(0, 0));
         Same.refused("P32 order: more than 5 but the CLAIM", () -> sevenThings(7, 6, 5, 4, 3, 2, 0),
             x -> x.order(0, 0));
