@@ -68,6 +68,13 @@ final class EdgeTogetherTest {
         Due.is("P15 apart: one that LEANS on it is", 0, x.apart(0, 1, 8));
         Due.is("P15 apart: also by some", 0, x.apart(0, 1, 16));
         Due.is("P15 apart: all of them", 0, x.apart(0, 1, 28));
+        OddsInCourt far = net(0, 0, 3, 4, 8, 16, 32, 64, 128, 256);
+        for (int given = 2; given < 10; given++) {
+            Due.is("P15 apart: also by some, as far down as " + given, 0, far.apart(0, 1, 1 << given));
+            Due.is("P15 apart: back, as far down as " + given, 0, far.apart(1, 0, 1 << given));
+        }
+        far.force(8, 1);
+        Due.is("P15 apart: as far down as 9, FORCED between", 1, far.apart(0, 1, 512));
         // from a to d a row goes by c, which LEANS on a and b, and by b, on which d LEANS
         OddsInCourt y = net(0, 0, 3, 2);
         Due.is("P15 apart: through b, a meeting ahead of it", 1, y.apart(0, 3, 0));
