@@ -1472,11 +1472,11 @@ public final class OddsInCourt {
                 return NO_WEIGHT;
             }
             long one = weighEvent(net, saying, saying.from[0]);
-            narrow(1, 0);
             at = saying.from[2];
             readAny(saying, 0);
             long other = weighBoth(net, 2, 0);
-            long both = weighBoth(net, 2, 1);
+            meet();
+            long both = weighBoth(net, 1, 0);
             return both * given == one * other ? 1 : 0;
         }
 
@@ -1626,14 +1626,10 @@ public final class OddsInCourt {
             if (top < 2) {
                 return;
             }
-            narrow(top - 2, top - 1);
-            top--;
-        }
-
-        private void narrow(int one, int by) {
             for (int i = 0; i < words; i++) {
-                pile[one][i] &= pile[by][i];
+                pile[top - 2][i] &= pile[top - 1][i];
             }
+            top--;
         }
     }
 
